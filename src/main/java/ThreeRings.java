@@ -8,7 +8,6 @@ public final class ThreeRings {
     private static final int MOST_GATES = 8;
     private static final int MOST_BYTES = 60;
     private static final int MOST_SEEN = 8;
-    private static final int SLOTS = 2;
     private static final int SECONDS = 300;
     private static final int MOST_PACE = 9;
     private static final int MOST_BRAKE = 99;
@@ -25,16 +24,13 @@ public final class ThreeRings {
     private final Plan plan = new Plan();
     private final Motion now = new Motion();
     private final Motion trial = new Motion();
-    private final Motion[] slots = new Motion[SLOTS];
-    private final boolean[] kept = new boolean[SLOTS];
+    private final Motion slot0 = new Motion();
+    private final Motion slot1 = new Motion();
     private final Timetable table = new Timetable(plan);
     private final Ways ways = new Ways(plan, table);
     private final Guess guess = new Guess(plan);
 
     public ThreeRings() {
-        for (int i = 0; i < SLOTS; i++) {
-            slots[i] = new Motion();
-        }
     }
 
     // ---- the city
@@ -69,9 +65,8 @@ public final class ThreeRings {
         }
         plan.takeFrom(reader.draft);
         now.startWith(plan.firstPace);
-        for (int i = 0; i < SLOTS; i++) {
-            kept[i] = false;
-        }
+        slot0.kept = false;
+        slot1.kept = false;
         table.pairUp();
         return plan.gates;
     }
@@ -302,7 +297,8 @@ public final class ThreeRings {
             return NONE;
         }
         table.lay(now);
-        return ways.fewestPumps(s);
+        ways.collectPumpSets(s);
+        return ways.fewestPumps();
     }
 
     // ---- seen
@@ -346,22 +342,24 @@ public final class ThreeRings {
     // ---- slots
 
     public int keep(int slot) {
-        if (!isSlot(slot)) {
+        Motion into = slotAt(slot);
+        if (into == null) {
             return UNKNOWN;
         }
-        slots[slot].takeFrom(now);
-        kept[slot] = true;
+        into.takeFrom(now);
+        into.kept = true;
         return now.braked();
     }
 
     public int again(int slot) {
-        if (!isSlot(slot)) {
+        Motion from = slotAt(slot);
+        if (from == null) {
             return UNKNOWN;
         }
-        if (!kept[slot]) {
+        if (!from.kept) {
             return LATE;
         }
-        now.takeFrom(slots[slot]);
+        now.takeFrom(from);
         return now.braked();
     }
 
@@ -375,8 +373,11 @@ public final class ThreeRings {
         return t >= 0 && t < SECONDS;
     }
 
-    private static boolean isSlot(int slot) {
-        return slot >= 0 && slot < SLOTS;
+    private Motion slotAt(int slot) {
+        if (slot == 0) {
+            return slot0;
+        }
+        return slot == 1 ? slot1 : null;
     }
 
     private boolean areGates(int gate, int other) {
@@ -588,6 +589,8 @@ public final class ThreeRings {
         final int[] seenOther = new int[MOST_SEEN];
         final int[] seenAt = new int[MOST_SEEN];
         int seen = 0;
+        /** Of a slot: whether anything is in it. */
+        boolean kept = false;
 
         void startWith(int[] paces) {
             for (int r = 0; r < RINGS && r < paces.length; r++) {
@@ -656,8 +659,13 @@ public final class ThreeRings {
         private final Plan plan;
         private final int[] turned = new int[RINGS * SPAN];
         private final int[] pairOf = new int[MOST_GATES * MOST_GATES];
-        private final int[] outerGate = new int[MOST_PAIRS];
-        private final int[] innerGate = new int[MOST_PAIRS];
+        /** Of each pair how far the outer gate may be from the inner one, to either side. */
+        private final int[] slack = new int[MOST_PAIRS];
+        /** Of each pair how far the outer gate is ahead of the first place that will do; how much more in odd seconds. */
+        private final int[] ahead = new int[MOST_PAIRS];
+        private final int[] oddAhead = new int[MOST_PAIRS];
+        private final boolean[] onlyThirds = new boolean[MOST_PAIRS];
+        private final int[] outerRing = new int[MOST_PAIRS];
         private final int[] waits = new int[MOST_PAIRS * SPAN];
         private int pairs = 0;
         private int laying = 0;
@@ -676,14 +684,21 @@ public final class ThreeRings {
                 for (int b = 0; b < plan.gates; b++) {
                     boolean facing = plan.ring[a] + 1 == plan.ring[b] && plan.rim[a] == 0 && plan.rim[b] == 1;
                     if (facing && pairs < MOST_PAIRS) {
-                        outerGate[pairs] = a;
-                        innerGate[pairs] = b;
-                        pairOf[MOST_GATES * a + b] = pairs;
-                        pairOf[MOST_GATES * b + a] = pairs;
-                        pairs++;
+                        addPair(a, b);
                     }
                 }
             }
+        }
+
+        private void addPair(int outer, int inner) {
+            pairOf[MOST_GATES * outer + inner] = pairs;
+            pairOf[MOST_GATES * inner + outer] = pairs;
+            slack[pairs] = plan.kind[outer] == 1 || plan.kind[inner] == 1 ? 1 : 0;
+            ahead[pairs] = plan.wrap(plan.place[outer] - plan.place[inner] + slack[pairs]);
+            oddAhead[pairs] = (plan.kind[outer] == 3 ? 1 : 0) - (plan.kind[inner] == 3 ? 1 : 0);
+            onlyThirds[pairs] = plan.kind[outer] == 4 || plan.kind[inner] == 4;
+            outerRing[pairs] = plan.ring[outer];
+            pairs++;
         }
 
         /** Works out where the rings stand until all comes again turn by turn. */
@@ -721,10 +736,6 @@ public final class ThreeRings {
                 return Math.max(0, Math.min(t, span - 1));
             }
             return steady + (t - steady) % period;
-        }
-
-        private int behind(int i) {
-            return i + 1 < span ? i + 1 : steady;
         }
 
         /** How many seconds from t on show all that ever comes. */
@@ -774,16 +785,21 @@ public final class ThreeRings {
         }
 
         private boolean openAt(int join, int i) {
-            int a = outerGate[join];
-            int b = innerGate[join];
-            if (i % 3 != 0 && (plan.kind[a] == 4 || plan.kind[b] == 4)) {
+            if (onlyThirds[join] && i % 3 != 0) {
                 return false;
             }
-            int apart = Math.abs(placeAt(a, i) - placeAt(b, i));
-            if (plan.kind[a] == 1 || plan.kind[b] == 1) {
-                return apart <= 1 || apart == plan.parts - 1;
+            int outer = SPAN * outerRing[join] + i;
+            int far = ahead[join] + turned[outer] - turned[outer + SPAN];
+            if ((i & 1) != 0) {
+                far += oddAhead[join];
             }
-            return apart == 0;
+            // From a turn behind to just short of two turns ahead: one turn set right is enough.
+            if (far < 0) {
+                far += plan.parts;
+            } else if (far >= plan.parts) {
+                far -= plan.parts;
+            }
+            return far <= 2 * slack[join];
         }
 
         /** How many seconds from t on one waits until the join is open; NEVER. */
@@ -806,7 +822,7 @@ public final class ThreeRings {
                     rest = 0;
                     break;
                 }
-                i = behind(i);
+                i = i + 1 < span ? i + 1 : steady;
             }
             if (rest >= WAIT_NEVER) {
                 rest = NEVER;
@@ -821,7 +837,7 @@ public final class ThreeRings {
             for (int k = 0; k < passed; k++) {
                 int wait = rest == NEVER ? WAIT_NEVER : passed - k + rest;
                 waits[SPAN * join + i] = laying << WAIT_BITS | wait;
-                i = behind(i);
+                i = i + 1 < span ? i + 1 : steady;
             }
         }
     }
@@ -1016,8 +1032,7 @@ public final class ThreeRings {
             return later;
         }
 
-        int fewestPumps(int seconds) {
-            collectPumpSets(seconds);
+        int fewestPumps() {
             int best = NONE;
             int fewest = MOST_GATES + 1;
             for (int set = 1; set < 1 << plan.gates; set++) {
@@ -1030,7 +1045,7 @@ public final class ThreeRings {
         }
 
         /** For each second and gate the set of the gates that reach it in time: one of them must be a pump. */
-        private void collectPumpSets(int seconds) {
+        void collectPumpSets(int seconds) {
             pumpSetCount = 0;
             for (int t = 0; t < plan.parts; t++) {
                 rememberAll(t);

@@ -13,6 +13,8 @@ public final class ModelTest {
     int runs = args.length > 0 ? Integer.parseInt(args[0]) : 120;
     int first = args.length > 1 ? Integer.parseInt(args[1]) : 0;
     for (int run = first; run < first + runs && Check.wrongSoFar() == 0; run++) oneRun(run);
+    joins();
+    kindsAndPaces();
     texts();
     Check.end("ModelTest");
   }
@@ -186,6 +188,53 @@ public final class ModelTest {
     same("gate(" + g + ", " + what + ")", x.gate(g, what), m.gate(g, what));
     same("pace(" + r + ")", x.pace(r), m.pace(r));
     same("fault()", x.fault(), m.fault());
+  }
+
+  /** Every pair of gates of many small cities, at every second of some turns. */
+  private static void joins() {
+    for (int seed = 0; seed < 800 && Check.wrongSoFar() == 0; seed++) {
+      begin(seed);
+      newCity(2 + chance.nextInt(4));
+      for (int n = 0; n < 3; n++) change();
+      int from = chance.nextInt(3) * 100;
+      for (int g = 0; g < gates; g++) {
+        for (int h = 0; h < gates; h++) joinsOf(g, h, from, Math.min(300, from + 56));
+      }
+    }
+  }
+
+  private static void joinsOf(int g, int h, int from, int to) {
+    for (int t = from; t < to; t++) {
+      int got = x.open(g, h, t);
+      int want = m.open(g, h, t);
+      if (got != want) same("open(" + g + ", " + h + ", " + t + ")", got, want);
+      int gotNext = t % 7 == 0 ? x.next(g, h, t) : 0;
+      int wantNext = t % 7 == 0 ? m.next(g, h, t) : 0;
+      if (gotNext != wantNext) same("next(" + g + ", " + h + ", " + t + ")", gotNext, wantNext);
+    }
+  }
+
+  /** Two gates of all kinds, all places apart, many paces, for a whole turn of the smallest city. */
+  private static void kindsAndPaces() {
+    for (int c = 0; c < 2 * 12 * 25 && Check.wrongSoFar() == 0; c++) {
+      begin(c);
+      String outer = c % 2 == 0 ? "G0000" : "G0011";
+      int place = c / 2 % 12;
+      write("U2" + outer + c / 24 % 5 + "G11" + place / 10 + place % 10 + c / 120 % 5);
+      same("city()", x.city(), m.city());
+      for (int p = -9; p <= 9; p++) {
+        for (int q : new int[] {-5, -1, 0, 1, 7}) {
+          x.turn(0, p);
+          m.turn(0, p);
+          x.turn(1, q);
+          m.turn(1, q);
+          told.setLength(0);
+          told.append("city ").append(c).append(" paces ").append(p).append(' ').append(q);
+          joinsOf(0, 1, 0, 12);
+          joinsOf(1, 0, 0, 12);
+        }
+      }
+    }
   }
 
   /** Texts with a sign changed, dropped or put in, cut off, or too long. */
