@@ -30,6 +30,10 @@ public final class BrakesTest {
     Check.due("held back for as long as it is ahead", same.bestBrake(1, 5, 0, 2, 1), 2);
     Check.due("too short", same.bestBrake(1, 4, 0, 2, 1), NONE);
     Check.due("as long as it takes", same.bestBrake(0, 7, 0, 2, 1), 2);
+    // a brake from second 12 on would do no harm, but it is a turn away
+    ThreeRings turnAway = Check.made("U2R21G11000G10060G21060");
+    Check.due("without", turnAway.soonest(0, 0, 2), 13);
+    Check.due("no second behind a turn", turnAway.bestBrake(2, 5, 0, 0, 2), 0);
     // the last candidate: one is there ahead of it, and all earlier ones hold one up
     Check.due("the last second that is looked at", Check.made("U2R01G00000G11110").bestBrake(0, 9, 0, 0, 1), 11);
   }
@@ -107,6 +111,13 @@ public final class BrakesTest {
     Check.due("in time", x.pumps(12), 1);
     Check.due("a second too few", x.pumps(11), 3);
     Check.due("each its own", x.pumps(0), 3);
+    x.brake(0, 0, 20);
+    Check.due("from second 0, braked", x.pumps(26), 1);
+    Check.due("from second 0, braked, a second too few", x.pumps(25), 3);
+    ThreeRings behind = Check.made("U2R01G00000G11110");
+    behind.brake(0, 12, 50);
+    Check.due("a brake behind the first turn", behind.pumps(12), 1);
+    Check.due("one gate", Check.made("U2G00000").pumps(0), 1);
     Check.due("only inwards", Check.made("U2R01G11050G00002").pumps(99), 2);
     ThreeRings turns = Check.made("U2R01G00000G00060G11000");
     Check.due("one for some seconds, another for others", turns.pumps(6), 3);

@@ -7,6 +7,7 @@ public final class JoinsTest {
     open();
     kinds();
     farAround();
+    allPairs();
     next();
     stays();
     share();
@@ -64,6 +65,18 @@ public final class JoinsTest {
         x.turn(0, 0);
         Check.due(name + "standing, second 2", x.open(0, 1, 2), kind == 4 ? 0 : 1);
         Check.due(name + "standing, second 3", x.open(0, 1, 3), kind == 3 ? 0 : 1);
+      }
+    }
+  }
+
+  /** The most pairs that eight gates can make. */
+  private static void allPairs() {
+    ThreeRings x = Check.made("U2" + "G00070".repeat(4) + "G11070".repeat(4));
+    for (int g = 0; g < 8; g++) {
+      for (int h = 0; h < 8; h++) {
+        int want = g < 4 == h < 4 ? 0 : 1;
+        Check.due("pair " + g + " " + h, x.open(g, h, 1), want);
+        Check.due("pair " + g + " " + h + " next", x.next(g, h, 1), want == 1 ? 1 : NONE);
       }
     }
   }

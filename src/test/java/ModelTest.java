@@ -20,7 +20,8 @@ public final class ModelTest {
   }
 
   private static void begin(int seed) {
-    chance = new Random(seed);
+    // seeds beside one another draw alike at first: they are scattered
+    chance = new Random((seed + 1) * 0x9E3779B97F4A7C15L);
     x = new ThreeRings();
     m = new PlainRings();
     told = new StringBuilder("seed " + seed + ":");
@@ -83,15 +84,23 @@ public final class ModelTest {
     return text.toString();
   }
 
+  private static int extreme() {
+    int[] all = {Integer.MIN_VALUE, Integer.MIN_VALUE + 1, -300, 256, 1 << 30, Integer.MAX_VALUE - 1, Integer.MAX_VALUE};
+    return all[chance.nextInt(all.length)];
+  }
+
   private static int someGate() {
+    if (chance.nextInt(150) == 0) return extreme();
     return chance.nextInt(40) == 0 ? chance.nextInt(12) - 2 : chance.nextInt(Math.max(1, gates));
   }
 
   private static int someRing() {
+    if (chance.nextInt(100) == 0) return extreme();
     return chance.nextInt(40) == 0 ? chance.nextInt(6) - 2 : chance.nextInt(3);
   }
 
   private static int someSecond() {
+    if (chance.nextInt(150) == 0) return extreme();
     int sort = chance.nextInt(20);
     if (sort == 0) return chance.nextInt(3) - 1;
     if (sort == 1) return 298 + chance.nextInt(4);
@@ -99,10 +108,12 @@ public final class ModelTest {
   }
 
   private static int someBits() {
+    if (chance.nextInt(60) == 0) return extreme();
     return chance.nextInt(30) == 0 ? chance.nextInt() : chance.nextInt(1 << Math.max(1, gates));
   }
 
   private static int near(int low, int high) {
+    if (chance.nextInt(60) == 0) return extreme();
     return low - 1 + chance.nextInt(high - low + 3);
   }
 

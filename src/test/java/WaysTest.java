@@ -114,6 +114,8 @@ public final class WaysTest {
     Check.due("no way back", oneWay.round(0, 0, 2), NONE);
     Check.due("no way there", oneWay.round(1, 0, 1), NONE);
     Check.due("no way needed", oneWay.round(1, 0, 2), 0);
+    // each join is just missed: at 352, 407, 461 and 514
+    Check.due("long past 299", Check.made("U9R01R21G00000G11280G10290G21000").round(0, 299, 8), 515);
     ThreeRings turning = Check.made("U2R01G00000G11050");
     Check.due("there, and back a turn later", turning.round(0, 0, 2), 18);
   }
