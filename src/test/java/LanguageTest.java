@@ -4,21 +4,15 @@ import java.lang.reflect.Modifier;
 import java.nio.file.Files;
 import java.nio.file.Path;
 import java.util.Set;
+import java.util.StringJoiner;
 import java.util.TreeSet;
 import java.util.regex.Matcher;
 import java.util.regex.Pattern;
 
 /** The rules of LANGUAGE.md that can be looked at from outside: the face, forbidden words, lengths. */
 public final class LanguageTest {
-  private static final String FACE =
-      "about(int) again(int) bestBrake(int,int,int,int,int) brake(int,int,int) city() dry(int) fault() gate(int,int)"
-          + " harm(int,int,int,int,int) keep(int) latest(int,int,int) likely(int,boolean) meet(int,int)"
-          + " next(int,int,int) open(int,int,int) pace(int) pumps(int) round(int,int,int) rows() see(int,int,int)"
-          + " share(int,int,boolean) soonest(int,int,int) stays(int,int,int) step(int,int,int,int,int) turn(int,int)"
-          + " unsee() where(int,int) wipe() worst(int,int) write(int,long)";
-
   public static void main(String[] args) throws Exception {
-    face();
+    face(Files.readString(Path.of("../shared/DOC.md")));
     Set<String> publicNames = new TreeSet<>();
     for (Method m : ThreeRings.class.getDeclaredMethods()) {
       if (Modifier.isPublic(m.getModifiers())) publicNames.add(m.getName());
@@ -35,23 +29,45 @@ public final class LanguageTest {
     Check.end("LanguageTest");
   }
 
-  private static void face() {
+  /** What the document's face has, and no more: the rows of its block of Java. */
+  private static void face(String document) throws Exception {
+    String block = document.substring(document.indexOf("public final class ThreeRings {"));
+    block = block.substring(0, block.indexOf("```"));
     Check.holds("public and final", Modifier.isPublic(ThreeRings.class.getModifiers())
         && Modifier.isFinal(ThreeRings.class.getModifiers()));
+    Set<String> methods = new TreeSet<>();
+    Matcher row = Pattern.compile("public int (\\w+)\\(([^)]*)\\);").matcher(block);
+    while (row.find()) methods.add(row.group(1) + "(" + row.group(2).replaceAll("(\\w+) \\w+", "$1").replace(" ", "") + ")");
+    Check.due("methods", methods.size(), 30);
     Set<String> have = new TreeSet<>();
     for (Method m : ThreeRings.class.getDeclaredMethods()) {
       if (Modifier.isPrivate(m.getModifiers())) continue;
+      Check.holds(m + " is public", Modifier.isPublic(m.getModifiers()));
       Check.holds(m + " answers an int", m.getReturnType() == int.class && !Modifier.isStatic(m.getModifiers()));
-      StringBuilder row = new StringBuilder(m.getName() + "(");
-      for (Class<?> p : m.getParameterTypes()) row.append(row.toString().endsWith("(") ? "" : ",").append(p.getName());
-      have.add(row.append(")").toString());
+      StringJoiner types = new StringJoiner(",", m.getName() + "(", ")");
+      for (Class<?> p : m.getParameterTypes()) types.add(p.getName());
+      have.add(types.toString());
     }
-    Check.holds("the face is " + have, String.join(" ", have).equals(FACE));
-    Set<String> constants = new TreeSet<>();
+    Check.holds("the face is " + have, have.equals(methods));
+    constants(block);
+    Check.due("constructors", ThreeRings.class.getDeclaredConstructors().length, 1);
+    Check.holds("public constructor without arguments", Modifier.isPublic(ThreeRings.class.getConstructor().getModifiers()));
+  }
+
+  private static void constants(String block) throws Exception {
+    Set<String> told = new TreeSet<>();
+    Matcher constant = Pattern.compile("([A-Z]+) = (-\\d+)").matcher(block);
+    while (constant.find()) {
+      told.add(constant.group(1));
+      Field f = ThreeRings.class.getField(constant.group(1));
+      Check.due(constant.group(1), f.getInt(null), Integer.parseInt(constant.group(2)));
+      Check.holds(f + " is an int for all", f.getType() == int.class && Modifier.isStatic(f.getModifiers()));
+    }
+    Set<String> have = new TreeSet<>();
     for (Field f : ThreeRings.class.getDeclaredFields()) {
-      if (!Modifier.isPrivate(f.getModifiers())) constants.add(f.getName());
+      if (!Modifier.isPrivate(f.getModifiers())) have.add(f.getName());
     }
-    Check.holds("the constants are " + constants, constants.toString().equals("[BAD, FULL, LATE, NONE, UNKNOWN]"));
+    Check.holds("the constants are " + have, have.equals(told) && told.size() == 5);
   }
 
   private static void members(Class<?> c, Set<String> publicNames) {
