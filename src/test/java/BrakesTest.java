@@ -233,6 +233,7 @@ public final class BrakesTest {
   @Broken(in = "void collectPumpSets(", code = "int t = 0;", as = "int t = 1;")
   @Broken(in = "void collectPumpSets(", code = "t < plan.parts", as = "t < plan.parts - 1")
   @Broken(in = "void collectPumpSets(", code = "t < plan.parts", as = "t <= plan.parts")
+  @Broken(in = "private void addPumpSet(", code = "if (pumpSets[i] == set)", as = "if (set < 0)")
   static void theFewestPumps() {
     Check.due("only inwards", Check.made("U2R01G11050G00002").pumps(99), 2);
     Check.due("the least of like ones", Check.made("U2G00000G00000G00000").pumps(1), 1);
@@ -250,6 +251,10 @@ public final class BrakesTest {
     ThreeRings behind = Check.made("U2R01G00000G11110");
     behind.brake(0, 12, 50);
     Check.due("a brake behind the first turn", behind.pumps(12), 1);
+    // all sets of the first seconds are alike: those of the last second count as well
+    ThreeRings most = Check.made("U9R01" + "G00000".repeat(7) + "G11520");
+    Check.due("eight gates, the longest turn", most.pumps(54), 1);
+    Check.due("eight gates, a second too few", most.pumps(53), 0b10000001);
   }
 
   @Sentence(in = "Terms", says = "(from another one at another second, if need be);")

@@ -527,6 +527,7 @@ public final class CityTest {
   @Broken(in = "public int city(", code = "slot0.kept = false;", as = "")
   @Broken(in = "public int city(", code = "slot1.kept = false;", as = "")
   @Broken(in = "public int city(", code = "table.pairUp();", as = "")
+  @Broken(in = "void pairUp(", code = "pairs = 0;", as = "")
   @Broken(in = "void startWith(", code = "clearBrakes();", as = "")
   @Broken(in = "void startWith(", code = "seen = 0;", as = "")
   @Broken(in = "void startWith(", code = "pace[r] = paces[r];", as = "pace[r] += paces[r];")
@@ -557,6 +558,8 @@ public final class CityTest {
     Check.due("its U", x.about(0), 12);
     Check.due("its joins", x.open(0, 1, 7), 1);
     Check.due("its joins", x.open(1, 2, 7), 0);
+    for (int n = 0; n < 40; n++) Check.due("again and again", x.city(), 3);
+    Check.due("its joins as ever", x.open(1, 0, 7), 1);
     x.wipe();
     Check.tell(x, "U3");
     Check.due("one without gates", x.city(), 0);

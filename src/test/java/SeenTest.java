@@ -113,6 +113,8 @@ public final class SeenTest {
   @Broken(in = "void tryInmost(", code = "widen(0, p);", as = "widen(0, q);")
   @Broken(in = "void tryInmost(", code = "widen(1, q);", as = "widen(1, s);")
   @Broken(in = "void tryInmost(", code = "widen(2, s);", as = "")
+  @Broken(in = "void tryInmost(", code = "p - s", as = "p + s")
+  @Broken(in = "void tryInmost(", code = "q - s", as = "q + s")
   @Broken(in = "void tryAll(", code = "Arrays.fill(greatest, -MOST_PACE);", as = "")
   @Broken(in = "void tryAll(", code = "Arrays.fill(least, MOST_PACE);", as = "")
   static void leastAndGreatestOfARing() {
@@ -126,6 +128,10 @@ public final class SeenTest {
     x.unsee();
     x.see(0, 1, 1);
     range(x, new int[] {9, -9, -9}, new int[] {9, -9, 9});
+    x.unsee();
+    x.see(1, 2, 1);
+    // ring 2 is 8 faster than ring 1
+    range(x, new int[] {-9, -9, -1}, new int[] {9, 1, 9});
     // the last rows that are tried do not have the greatest paces of rings 1 and 2
     ThreeRings half = Check.made(RIMS);
     half.see(0, 1, 1);
