@@ -1,4 +1,8 @@
+import java.lang.reflect.Method;
+import java.lang.reflect.Modifier;
 import java.nio.charset.StandardCharsets;
+import java.util.Set;
+import java.util.TreeSet;
 
 /** What the tests share: a count of wrong answers, texts written to an object, arguments that are refused. */
 final class Check {
@@ -41,6 +45,15 @@ final class Check {
 
   static int askedSoFar() {
     return asked;
+  }
+
+  /** The names of the class's public methods. */
+  static Set<String> face() {
+    Set<String> names = new TreeSet<>();
+    for (Method m : ThreeRings.class.getDeclaredMethods()) {
+      if (Modifier.isPublic(m.getModifiers())) names.add(m.getName());
+    }
+    return names;
   }
 
   /** Numbers of which none is a gate of a city that has so many. */

@@ -12,11 +12,9 @@ import java.util.regex.Pattern;
 /** The rules of LANGUAGE.md that can be looked at from outside: the face, forbidden words, lengths. */
 public final class LanguageTest {
   public static void main(String[] args) throws Exception {
-    face(Files.readString(Path.of("../shared/DOC.md")));
-    Set<String> publicNames = new TreeSet<>();
-    for (Method m : ThreeRings.class.getDeclaredMethods()) {
-      if (Modifier.isPublic(m.getModifiers())) publicNames.add(m.getName());
-    }
+    String document = Files.readString(Path.of("../shared/DOC.md"));
+    face(document);
+    Set<String> publicNames = Check.face();
     members(ThreeRings.class, publicNames);
     Class<?>[] inside = ThreeRings.class.getDeclaredClasses();
     Check.holds("at most twelve classes", inside.length <= 11);
@@ -25,7 +23,9 @@ public final class LanguageTest {
       Check.holds(c + " is not public", !Modifier.isPublic(c.getModifiers()));
       members(c, publicNames);
     }
-    source(Files.readString(Path.of("src/main/java/ThreeRings.java")));
+    String whole = Files.readString(Path.of("src/main/java/ThreeRings.java"));
+    source(whole);
+    groups(document, whole);
     Check.end("LanguageTest");
   }
 
@@ -68,6 +68,23 @@ public final class LanguageTest {
       if (!Modifier.isPrivate(f.getModifiers())) have.add(f.getName());
     }
     Check.holds("the constants are " + have, have.equals(told) && told.size() == 5);
+  }
+
+  /** The document's word ahead of a group of calls stands ahead of just these in the class. */
+  private static void groups(String document, String whole) {
+    int groups = 0;
+    Matcher told = Pattern.compile("Ahead of the calls (.*) the interface says: (---- .*)\\.").matcher(document);
+    for (; told.find(); groups++) {
+      int from = whole.indexOf("// " + told.group(2) + "\n");
+      Check.holds("// " + told.group(2) + " stands in the class", from >= 0);
+      if (from < 0) continue;
+      int to = Math.max(from, whole.indexOf("// ----", from + 1));
+      StringJoiner calls = new StringJoiner("`, `", "`", "`");
+      Matcher call = Pattern.compile("\n    public int (\\w+)\\(").matcher(whole.substring(from, to));
+      while (call.find()) calls.add(call.group(1));
+      Check.holds(told.group(2) + " stands ahead of " + calls, calls.toString().equals(told.group(1)));
+    }
+    Check.due("groups of calls", groups, 6);
   }
 
   private static void members(Class<?> c, Set<String> publicNames) {
